@@ -1024,7 +1024,7 @@ public final class FrameTyper {
         int firstFault() {
             code.findBegins();
             states.forgetAll();
-            Arrays.fill(waiting, false);
+            unmark(waiting);
             stepper.now.enter(world.method);
             comesTo(0);
             for (int round = 0; round < ROUNDS_MOST; round++) {
@@ -1038,6 +1038,12 @@ public final class FrameTyper {
                 }
             }
             return firstUnreached();
+        }
+
+        private static void unmark(boolean[] row) {
+            for (int place = 0; place < row.length; place++) {
+                row[place] = false;
+            }
         }
 
         /** The frames of the places that the last firstFault, which was 0, has found. */
@@ -1113,7 +1119,7 @@ public final class FrameTyper {
 
         /** Marks the places that need a frame: how many there are. */
         private int markFramed() {
-            Arrays.fill(framed, false);
+            unmark(framed);
             for (int place = 0; place < code.size(); place++) {
                 if (code.begins(place)) {
                     markFrom(place);

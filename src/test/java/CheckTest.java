@@ -231,6 +231,10 @@ public final class CheckTest {
                 2, 19, 5, 0, 8, 14, 3, 8, 5, 0, 2, 19);
         Due.table(t, 1, 64 + 2, 8, 2);
         dueIs("14 finds it on the stack", t, 602, 2, 19, 14, 3, 2, 19);
+        Due.table(t, 1, 255, 2, 0, 3, 2, 8, 2, 2);
+        dueIs("14 finds it in the middle of the stack", t, 602, 2, 19, 14, 3, 2, 19);
+        Due.table(t, 1, 255, 2, 0, 3, 2, 2, 8, 2);
+        dueIs("14 finds it on top of the stack", t, 602, 2, 19, 14, 3, 2, 19);
         Due.table(t, 1, 64 + 2, 8, 5);
         dueIs("another 14 does not", t, 605, 2, 19, 14, 3, 8, 14, 3, 2, 19);
     }

@@ -156,6 +156,9 @@ public final class MakeTest {
         makes("one on the stack and one local more", t, row(2, 6, 2, 2, 1, 0, 12, 2, 19),
                 1, 255, 8, 3, 1, 7, 0, 2, 1, 2);
         t.method(1, 1, 1, 1, 0);
+        makes("five that meet five", t,
+                row(3, 0, 12, 9, 2, 2, 2, 2, 2, 11, 8, 2, 2, 2, 2, 1, 0, 8, 3, 0, 19),
+                2, 11, 255, 5, 4, 1, 1, 1, 1, 5, 2, 2, 2, 2, 0);
         makes("five on the stack", t, row(2, 2, 2, 2, 3, 0, 11, 2, 19),
                 1, 255, 8, 4, 1, 1, 1, 1, 5, 2, 2, 2, 2, 1);
     }
@@ -202,6 +205,8 @@ public final class MakeTest {
         fails("at the place where they meet", t, -306, 2, 3, 0, 12, 3, 8, 19);
         fails("at the next place", t, -305, 3, 0, 12, 3, 2, 19);
         fails("at a place before", t, -300, 2, 11, 255);
+        fails("at another place before", t, -303, 0, 0, 0, 2, 11, 255);
+        fails("at a place gone to behind", t, -309, 3, 0, 12, 7, 2, 11, 4, 0, 0, 19);
         fails("the next place before the one gone to", t, -309,
                 3, 0, 12, 7, 2, 3, 0, 12, 249, 19);
     }
