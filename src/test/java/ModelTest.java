@@ -1,14 +1,23 @@
+import java.util.Arrays;
 import java.util.Random;
 import java.util.TreeMap;
 
 /** Long runs of drawn calls, each answer compared with the model's. */
 public final class ModelTest {
-    private static final int RUNS = 1000;
+    private static final int RUNS = 2500;
+    /** What later calls of an object answer is free. */
+    private static final int CALLS = 512;
     private static final int MALFORMED = 1000001;
     private static final int TOO_LONG = 1000002;
 
+    /** Ends a run when its object has had all its calls. */
+    private static final class Spent extends RuntimeException {
+        private static final long serialVersionUID = 1L;
+    }
+
     private final Random random;
-    private final FrameTyper typer = new FrameTyper();
+    private final FrameTyper object = new FrameTyper();
+    private int calls;
     private final Model model = new Model();
     /** A model of the same world, on which code is tried before it is used. */
     private final Model probe = new Model();
@@ -44,32 +53,49 @@ public final class ModelTest {
         for (int tag : new int[] {248, 249, 250, 252, 253, 254, 255}) {
             Due.is("tag " + tag + " was made", seen.getOrDefault("tag " + tag, 0) > 3, true);
         }
+        Due.is("runs had all their calls", seen.getOrDefault("spent", 0) > 10, true);
         Due.is("malformed was seen", seen.getOrDefault("malformed", 0) > 10, true);
         Due.is("too long was seen", seen.getOrDefault("too long", 0) > 3, true);
     }
 
     private void run(String what) {
-        drawWorld();
-        for (int round = 0; round < 6; round++) {
-            if (round % 3 == 0) {
-                drawCode();
-            } else {
-                growCode();
+        try {
+            for (int round = 0; round < CALLS; round++) {
+                runRound(what, round);
             }
-            for (int k = 0; k < 3; k++) {
-                compareCheck(what);
-                compareMake(what);
-                compareCheck(what);
-                compareFrames(what);
-                changeTable();
-                compareCheck(what);
-                compareFrames(what);
-                if (random.nextInt(3) == 0) {
-                    drawWorld();
-                }
-                appendDrawnCode();
-            }
+        } catch (Spent e) {
+            seen.merge("spent", 1, Integer::sum);
         }
+    }
+
+    private void runRound(String what, int round) {
+        if (round == 0 || draw(3) == 0) {
+            drawWorld();
+        }
+        if (draw(3) == 0) {
+            drawCode();
+        } else {
+            growCode();
+        }
+        for (int k = draw(3); k >= 0; k--) {
+            compareCheck(what);
+            compareMake(what);
+            compareCheck(what);
+            compareFrames(what);
+            changeTable();
+            compareCheck(what);
+            compareFrames(what);
+            appendDrawnCode();
+        }
+    }
+
+    /** The object, for one call. */
+    private FrameTyper typer() {
+        if (calls == CALLS) {
+            throw new Spent();
+        }
+        calls++;
+        return object;
     }
 
     private int draw(int bound) {
@@ -88,23 +114,23 @@ public final class ModelTest {
         for (int k = 0; k < 3; k++) {
             int c = draw(10) - 1;
             int parent = draw(8) - (draw(30) == 0 ? 1 : 0);
-            Due.is("parent", typer.parent(c, parent), model.parent(c, parent));
+            Due.is("parent", typer().parent(c, parent), model.parent(c, parent));
             probe.parent(c, parent);
             int f = draw(8) - 1;
             int fc = draw(9);
             int ft = drawType();
-            Due.is("field", typer.field(f, fc, ft), model.field(f, fc, ft));
+            Due.is("field", typer().field(f, fc, ft), model.field(f, fc, ft));
             probe.field(f, fc, ft);
             int[] r = drawRow(3);
             int given = draw(3) == 0 ? 0 : drawType();
             int which = draw(8) - 1;
-            Due.is("routine", typer.routine(which, r[0], r[1], r[2], given),
+            Due.is("routine", typer().routine(which, r[0], r[1], r[2], given),
                     model.routine(which, r[0], r[1], r[2], given));
             probe.routine(which, r[0], r[1], r[2], given);
         }
         int[] m = drawRow(4);
         int gives = draw(2) == 0 ? 0 : drawType();
-        Due.is("method", typer.method(m[0], m[1], m[2], m[3], gives),
+        Due.is("method", typer().method(m[0], m[1], m[2], m[3], gives),
                 model.method(m[0], m[1], m[2], m[3], gives));
         probe.method(m[0], m[1], m[2], m[3], gives);
     }
@@ -119,7 +145,7 @@ public final class ModelTest {
     }
 
     private void drawCode() {
-        Due.is("clear", typer.clear(), model.clear());
+        Due.is("clear", typer().clear(), model.clear());
         int many = draw(24);
         for (int i = 0; i < many; i++) {
             appendInstruction();
@@ -182,9 +208,10 @@ public final class ModelTest {
         if (draw(4) == 0) {
             code[draw(code.length)] = draw(22);
         }
-        Due.is("clear", typer.clear(), model.clear());
-        for (int value : code) {
-            appendCode(value, 1);
+        Due.is("clear", typer().clear(), model.clear());
+        for (int i = 0; i < code.length; i += 8) {
+            int n = Math.min(8, code.length - i);
+            appendCode(Due.packed(code, i, n), n);
         }
     }
 
@@ -241,36 +268,44 @@ public final class ModelTest {
     }
 
     private void appendCode(long bytes, int n) {
-        Due.is("code", typer.code(bytes, n), model.code(bytes, n));
+        Due.is("code", typer().code(bytes, n), model.code(bytes, n));
     }
 
     private void changeTable() {
-        if (draw(3) == 0) {
+        int kind = draw(12);
+        if (kind < 4) {
             return;
         }
-        if (draw(4) == 0) {
-            Due.is("table", typer.table(0, 0), model.table(0, 0));
+        int[] bytes = modelTable();
+        Due.is("table", typer().table(0, 0), model.table(0, 0));
+        if (kind < 7) {
             drawTable();
             return;
         }
-        int n = 0;
+        if (bytes.length > 0 && draw(2) == 0) {
+            bytes[draw(bytes.length)] = drawByte();
+        }
+        for (int i = 0; i < bytes.length; i += 8) {
+            int n = Math.min(8, bytes.length - i);
+            appendTable(Due.packed(bytes, i, n), n);
+        }
+        if (kind == 11) {
+            appendTable(random.nextLong(), draw(10));
+        }
+    }
+
+    private int[] modelTable() {
         int[] bytes = new int[120];
-        while (n < 120 && typer.tableAt(n) >= 0) {
-            bytes[n] = typer.tableAt(n);
+        int n = 0;
+        while (n < 120 && model.tableAt(n) >= 0) {
+            bytes[n] = model.tableAt(n);
             n++;
         }
-        if (n > 0 && draw(2) == 0) {
-            bytes[draw(n)] = drawByte();
-        }
-        Due.is("table", typer.table(0, 0), model.table(0, 0));
-        for (int i = 0; i < n; i++) {
-            Due.is("table", typer.table(bytes[i], 1), model.table(bytes[i], 1));
-        }
-        if (draw(12) == 0) {
-            long more = random.nextLong();
-            int many = draw(10);
-            Due.is("table", typer.table(more, many), model.table(more, many));
-        }
+        return Arrays.copyOf(bytes, n);
+    }
+
+    private void appendTable(long bytes, int n) {
+        Due.is("table", typer().table(bytes, n), model.table(bytes, n));
     }
 
     private int drawByte() {
@@ -320,67 +355,109 @@ public final class ModelTest {
     }
 
     private void put(int value) {
-        Due.is("table", typer.table(value, 1), model.table(value, 1));
+        appendTable(value, 1);
+    }
+
+    // An exception of the object and one of the model are told by the same number.
+
+    private int objectsCheck() {
+        try {
+            return typer().check();
+        } catch (IllegalArgumentException e) {
+            return MALFORMED;
+        }
+    }
+
+    private int modelsCheck() {
+        try {
+            return model.check();
+        } catch (IllegalArgumentException e) {
+            return MALFORMED;
+        }
+    }
+
+    private int objectsMake() {
+        try {
+            return typer().make();
+        } catch (IllegalStateException e) {
+            return TOO_LONG;
+        }
+    }
+
+    private int modelsMake() {
+        try {
+            return model.make();
+        } catch (IllegalStateException e) {
+            return TOO_LONG;
+        }
+    }
+
+    private int objectsFrames() {
+        try {
+            return typer().frames();
+        } catch (IllegalArgumentException e) {
+            return MALFORMED;
+        }
+    }
+
+    private int modelsFrames() {
+        try {
+            return model.frames();
+        } catch (IllegalArgumentException e) {
+            return MALFORMED;
+        }
+    }
+
+    private int objectsFrame(int i, int what) {
+        try {
+            return typer().frame(i, what);
+        } catch (IllegalArgumentException e) {
+            return MALFORMED;
+        }
+    }
+
+    private int modelsFrame(int i, int what) {
+        try {
+            return model.frame(i, what);
+        } catch (IllegalArgumentException e) {
+            return MALFORMED;
+        }
     }
 
     private void compareCheck(String what) {
-        int got;
-        int want;
-        try {
-            got = typer.check();
-        } catch (IllegalArgumentException e) {
-            got = MALFORMED;
-        }
-        try {
-            want = model.check();
-        } catch (IllegalArgumentException e) {
-            want = MALFORMED;
-        }
+        int got = objectsCheck();
+        int want = modelsCheck();
         Due.is(what + ": check", got, want);
         seen.merge(want == MALFORMED ? "malformed" : "check " + want / 100, 1, Integer::sum);
     }
 
     private void compareMake(String what) {
-        int got;
-        int want;
-        try {
-            got = typer.make();
-        } catch (IllegalStateException e) {
-            got = TOO_LONG;
-        }
-        try {
-            want = model.make();
-        } catch (IllegalStateException e) {
-            want = TOO_LONG;
-        }
+        int got = objectsMake();
+        int want = modelsMake();
         Due.is(what + ": make", got, want);
-        for (int i = -1; i <= 120; i++) {
-            Due.is(what + ": tableAt(" + i + ")", typer.tableAt(i), model.tableAt(i));
-        }
         boolean made = want > 0 && want != TOO_LONG;
         seen.merge(want == TOO_LONG ? "too long" : "make " + (made ? 0 : -want / 100), 1, Integer::sum);
         if (made) {
-            Due.is(what + ": what is made is right", typer.check(), 0);
+            Due.is(what + ": what is made is right", objectsCheck(), 0);
             for (int i = 1; i < want; i++) {
-                seen.merge("tag " + typer.tableAt(i), 1, Integer::sum);
+                seen.merge("tag " + model.tableAt(i), 1, Integer::sum);
             }
+        }
+        int size = modelTable().length;
+        for (int i = 0; i <= size; i++) {
+            Due.is(what + ": tableAt(" + i + ")", typer().tableAt(i), model.tableAt(i));
         }
     }
 
+    /** Of some frames, as a table can have more than there are calls for. */
     private void compareFrames(String what) {
-        int many;
-        try {
-            many = model.frames();
-        } catch (IllegalArgumentException e) {
-            Due.malformed(what, typer, true);
-            return;
-        }
-        Due.malformed(what, typer, false);
-        Due.is(what + ": frames", typer.frames(), many);
-        for (int i = -1; i <= many; i++) {
-            for (int k = -1; k <= 11; k++) {
-                Due.is(what + ": frame(" + i + ", " + k + ")", typer.frame(i, k), model.frame(i, k));
-            }
+        int many = modelsFrames();
+        Due.is(what + ": frames", objectsFrames(), many);
+        for (int k = 0; k < 12; k++) {
+            int i = many == MALFORMED ? draw(3) - 1 : draw(many + 2) - 1;
+            int which = draw(13) - 1;
+            String call = what + ": frame(" + i + ", " + which + ")";
+            Due.is(call, objectsFrame(i, which), modelsFrame(i, which));
         }
     }
 }

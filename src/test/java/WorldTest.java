@@ -52,29 +52,22 @@ public final class WorldTest {
         }
     }
 
-    /** Whether an object of class c can be taken where one of class d is wanted. */
-    private static boolean isBelow(FrameTyper t, int c, int d) {
-        t.routine(5, 16 + d, NONE, NONE, 0);
-        Due.code(t, 14, c, 9, 15, 18, 5, 19);
-        return t.check() == 0;
-    }
-
     private static void parent() {
         FrameTyper t = new FrameTyper();
         Due.is("2: parent(1, 0)", t.parent(1, 0), true);
         Due.is("2: parent(2, 1)", t.parent(2, 1), true);
         Due.is("2: parent(5, 2)", t.parent(5, 2), true);
         Due.is("2: parent(7, 6)", t.parent(7, 6), true);
-        Due.is("2: 5 below 5", isBelow(t, 5, 5), true);
-        Due.is("2: 5 below 2", isBelow(t, 5, 2), true);
-        Due.is("2: 5 below 1", isBelow(t, 5, 1), true);
-        Due.is("2: 5 below 0", isBelow(t, 5, 0), true);
-        Due.is("2: 5 below 3", isBelow(t, 5, 3), false);
-        Due.is("2: 2 below 5", isBelow(t, 2, 5), false);
-        Due.is("2: 7 below 6", isBelow(t, 7, 6), true);
+        Due.is("2: 5 below 5", Due.isBelow(t, 5, 5), true);
+        Due.is("2: 5 below 2", Due.isBelow(t, 5, 2), true);
+        Due.is("2: 5 below 1", Due.isBelow(t, 5, 1), true);
+        Due.is("2: 5 below 0", Due.isBelow(t, 5, 0), true);
+        Due.is("2: 5 below 3", Due.isBelow(t, 5, 3), false);
+        Due.is("2: 2 below 5", Due.isBelow(t, 2, 5), false);
+        Due.is("2: 7 below 6", Due.isBelow(t, 7, 6), true);
         Due.is("2: parent again", t.parent(5, 3), true);
-        Due.is("2: 5 below 3 then", isBelow(t, 5, 3), true);
-        Due.is("2: 5 not below 2 then", isBelow(t, 5, 2), false);
+        Due.is("2: 5 below 3 then", Due.isBelow(t, 5, 3), true);
+        Due.is("2: 5 not below 2 then", Due.isBelow(t, 5, 2), false);
     }
 
     private static void parentAtEdges() {
@@ -90,7 +83,7 @@ public final class WorldTest {
             Due.is("2: parent(" + far + ", 0)", t.parent(far, 0), false);
             Due.is("2: parent(3, " + far + ")", t.parent(3, far), false);
         }
-        Due.is("2: nothing was done", isBelow(t, 3, 2), true);
+        Due.is("2: nothing was done", Due.isBelow(t, 3, 2), true);
     }
 
     private static void field() {
