@@ -1,4 +1,4 @@
-/** Promise 1, a new object: each of its boundary cases has a test of its own. */
+/** Promise 1, a new object: its sentences and their boundary cases, a test for each. */
 public final class Promise01Test {
     private static final int NONE = FrameTyper.NONE;
 

@@ -1,4 +1,4 @@
-/** Promise 2, parent: each of its boundary cases has a test of its own. */
+/** Promise 2, parent: its sentences and their boundary cases, a test for each. */
 public final class Promise02Test {
     private static final int[] FAR = {
         -2, -8, -256, -255, 16, 256, 257, 65537, Integer.MAX_VALUE, Integer.MIN_VALUE};
@@ -136,5 +136,16 @@ public final class Promise02Test {
         Due.is("5 below 1 by its parent's parent", Due.isBelow(t, 5, 1), true);
         t.parent(2, 0);
         Due.is("5 below 1 no more", Due.isBelow(t, 5, 1), false);
+    }
+
+    static void theCodeAndTheTableStay() {
+        FrameTyper t = new FrameTyper();
+        Due.code(t, 0, 19);
+        Due.table(t, 1, 1);
+        Due.is("taken", t.parent(2, 1), true);
+        Due.is("refused", t.parent(2, 2), false);
+        Due.is("check()", t.check(), 0);
+        Due.tableIs("then", t, 1, 1);
+        Due.is("clear()", t.clear(), 2);
     }
 }

@@ -1,4 +1,4 @@
-/** Promise 3, field: each of its boundary cases has a test of its own. */
+/** Promise 3, field: its sentences and their boundary cases, a test for each. */
 public final class Promise03Test {
     private static final int NONE = FrameTyper.NONE;
     private static final int[] FAR = {
@@ -163,5 +163,16 @@ public final class Promise03Test {
                 fieldIs(t, k, k == f ? 4 : 0, k == f ? 20 : 1);
             }
         }
+    }
+
+    static void theCodeAndTheTableStay() {
+        FrameTyper t = new FrameTyper();
+        Due.code(t, 0, 19);
+        Due.table(t, 1, 1);
+        Due.is("taken", t.field(2, 1, 17), true);
+        Due.is("refused", t.field(2, 1, 2), false);
+        Due.is("check()", t.check(), 0);
+        Due.tableIs("then", t, 1, 1);
+        Due.is("clear()", t.clear(), 2);
     }
 }

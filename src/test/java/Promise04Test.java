@@ -1,4 +1,4 @@
-/** Promise 4, routine: each of its boundary cases has a test of its own. */
+/** Promise 4, routine: its sentences and their boundary cases, a test for each. */
 public final class Promise04Test {
     private static final int NONE = FrameTyper.NONE;
     private static final int[] UNKNOWN = {
@@ -183,5 +183,16 @@ public final class Promise04Test {
                 Due.checks("routine " + k, t, k == r ? 500 : 0, 18, k, 19);
             }
         }
+    }
+
+    static void theCodeAndTheTableStay() {
+        FrameTyper t = new FrameTyper();
+        Due.code(t, 0, 19);
+        Due.table(t, 1, 1);
+        Due.is("taken", t.routine(2, 1, 17, NONE, 18), true);
+        Due.is("refused", t.routine(2, NONE, 17, NONE, 18), false);
+        Due.is("check()", t.check(), 0);
+        Due.tableIs("then", t, 1, 1);
+        Due.is("clear()", t.clear(), 2);
     }
 }

@@ -1,4 +1,4 @@
-/** Promise 5, method: each of its boundary cases has a test of its own. */
+/** Promise 5, method: its sentences and their boundary cases, a test for each. */
 public final class Promise05Test {
     private static final int NONE = FrameTyper.NONE;
     private static final int[] UNKNOWN = {
@@ -148,5 +148,16 @@ public final class Promise05Test {
         Due.is("d behind NONE", t.method(1, 1, NONE, 1, 0), false);
         Due.is("d behind three", t.method(NONE, NONE, NONE, 1, 0), false);
         isAsBefore(t);
+    }
+
+    static void theCodeAndTheTableStay() {
+        FrameTyper t = new FrameTyper();
+        Due.code(t, 0, 19);
+        Due.table(t, 1, 1);
+        Due.is("taken", t.method(1, 17, NONE, NONE, 0), true);
+        Due.is("refused", t.method(NONE, 17, NONE, NONE, 18), false);
+        Due.is("check()", t.check(), 0);
+        Due.tableIs("then", t, 1, 1);
+        Due.is("clear()", t.clear(), 2);
     }
 }

@@ -1,4 +1,4 @@
-/** Promise 6, code: each of its boundary cases has a test of its own. */
+/** Promise 6, code: its sentences and their boundary cases, a test for each. */
 public final class Promise06Test {
     private static final int NONE = FrameTyper.NONE;
     private static final int[] WRONG_COUNTS = {
@@ -129,5 +129,13 @@ public final class Promise06Test {
         Due.is("nothing of it is there", t.check(), 145);
         Due.is("48 by 3", t.code(0x000013, 3), 48);
         Due.is("and then it is right", t.check(), 0);
+    }
+
+    static void theTableStays() {
+        FrameTyper t = new FrameTyper();
+        Due.table(t, 1, 5);
+        t.code(0x0013, 2);
+        t.code(0x13, 9);
+        Due.tableIs("then", t, 1, 5);
     }
 }

@@ -1,4 +1,4 @@
-/** Promise 7, clear: each of its boundary cases has a test of its own. */
+/** Promise 7, clear: its sentences and their boundary cases, a test for each. */
 public final class Promise07Test {
     private static final int NONE = FrameTyper.NONE;
 

@@ -1,4 +1,4 @@
-/** Promise 8, table: each of its boundary cases has a test of its own. */
+/** Promise 8, table: its sentences and their boundary cases, a test for each. */
 public final class Promise08Test {
     private static final int NONE = FrameTyper.NONE;
     private static final int[] WRONG_COUNTS = {

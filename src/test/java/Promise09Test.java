@@ -1,4 +1,4 @@
-/** Promise 9, tableAt: each of its boundary cases has a test of its own. */
+/** Promise 9, tableAt: its sentences and their boundary cases, a test for each. */
 public final class Promise09Test {
     private static final int NONE = FrameTyper.NONE;
 

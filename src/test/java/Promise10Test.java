@@ -1,6 +1,6 @@
 import java.util.Arrays;
 
-/** Promise 10, frames, and when the table is malformed: each boundary case has a test of its own. */
+/** Promise 10, frames, and when the table is malformed: a test for each case. */
 public final class Promise10Test {
     private static final int NONE = FrameTyper.NONE;
 

@@ -1,4 +1,4 @@
-/** Promise 11, frame: each of its boundary cases has a test of its own. */
+/** Promise 11, frame: its sentences and their boundary cases, a test for each. */
 public final class Promise11Test {
     private static final int NONE = FrameTyper.NONE;
 
@@ -30,6 +30,25 @@ public final class Promise11Test {
         Due.is("247, 47", withTable(1, 247, 47, 1).frame(0, 0), 47);
         Due.is("251, 0", withTable(1, 251, 0).frame(0, 0), 0);
         Due.is("251, 47", withTable(1, 251, 47).frame(0, 0), 47);
+    }
+
+    /** Each form of a frame, with this DELTA, for a method that takes 1, 17, 18, 19. */
+    private static int[][] everyForm(int delta) {
+        return new int[][] {
+            {1, delta}, {1, 64 + delta, 2}, {1, 247, delta, 2}, {1, 248, delta}, {1, 249, delta},
+            {1, 250, delta}, {1, 251, delta}, {1, 255, delta, 1, 2, 1, 2}};
+    }
+
+    static void everyPlaceByEveryForm() {
+        for (int place = 0; place <= 47; place++) {
+            for (int[] table : everyForm(place)) {
+                Due.is("tag " + table[1] + " at " + place, withTable(table).frame(0, 0), place);
+            }
+            for (int tag = 252; tag <= 254; tag++) {
+                int[] table = Due.join(Due.row(1, tag, place), Due.times(tag - 251, 2));
+                Due.is("tag " + tag + " at " + place, bareWithTable(table).frame(0, 0), place);
+            }
+        }
     }
 
     // "... for others the place of the one before and DELTA and 1"
@@ -122,6 +141,34 @@ public final class Promise11Test {
                 Due.is("local " + (k - 1) + " of " + n, t.frame(0, k), k <= n ? 2 : 0);
             }
         }
+    }
+
+    // "A type is a byte 0, 1, 2 for TOP, INT, NULL; 7 and a class 0 .. 7; 8 and a place 0 .. 47"
+    // ("0 TOP, 1 INT, 2 NULL, 16 + c an OBJECT of class c, 64 + p what was NEW at place p")
+    static void everyTypeThatATableCanTell() {
+        for (int type = 0; type <= 2; type++) {
+            tellsType(type, type);
+        }
+        for (int c = 0; c <= 7; c++) {
+            tellsType(16 + c, 7, c);
+        }
+        for (int place = 0; place <= 47; place++) {
+            tellsType(64 + place, 8, place);
+        }
+    }
+
+    /** In a local and on the stack, by each form that tells of types. */
+    private static void tellsType(int type, int... bytes) {
+        FrameTyper t = bareWithTable(Due.join(Due.row(1, 64), bytes));
+        Due.frameIs("tag 64, " + type, t, 0, 0, 0, 0, 0, 0, 1, type);
+        Due.table(t, Due.join(Due.row(1, 247, 0), bytes));
+        Due.frameIs("247, " + type, t, 0, 0, 0, 0, 0, 0, 1, type);
+        Due.table(t, Due.join(Due.row(1, 252, 0), bytes));
+        Due.frameIs("252, " + type, t, 0, 0, type, 0, 0, 0, 0);
+        Due.table(t, Due.join(Due.row(1, 254, 0, 1), bytes, Due.row(1)));
+        Due.frameIs("254, " + type, t, 0, 0, 1, type, 1, 0, 0);
+        Due.table(t, Due.join(Due.row(1, 255, 0, 2, 1), bytes, Due.row(2), bytes, Due.row(1)));
+        Due.frameIs("255, " + type, t, 0, 0, 1, type, 0, 0, 2, type, 1);
     }
 
     // "5 how high the stack is, 6 .. 10 its types (NONE above it)"

@@ -1,4 +1,4 @@
-/** Promise 12, check: each boundary case of frames and faults has a test of its own. */
+/** Promise 12, check: frames, faults and their order, a test for each case. */
 public final class Promise12Test {
     private static final int NONE = FrameTyper.NONE;
     private static final int[] WITH_X = {1, 3, 4, 5, 6, 11, 12, 13, 14, 16, 17, 18, 20};
@@ -503,6 +503,38 @@ public final class Promise12Test {
         Due.checks("14 of class 8 behind 19", new FrameTyper(), 201, 19, 14, 8);
     }
 
+    static void fault2Before5() {
+        Due.checks("7 behind 19", new FrameTyper(), 201, 19, 7);
+    }
+
+    static void fault2Before6() {
+        Due.checks("3 of TOP behind 19", new FrameTyper(), 201, 19, 3, 0);
+    }
+
+    static void fault2Before8() {
+        Due.checks("11 behind 19", new FrameTyper(), 201, 19, 11, 9);
+    }
+
+    static void fault3Before5() {
+        Due.checks("7 of one", withTable(1, 65, 1), 301, 0, 7, 19);
+    }
+
+    static void fault3Before6() {
+        Due.checks("21 of INT", withTable(1, 65, 1), 301, 0, 21);
+    }
+
+    static void fault3Before7() {
+        Due.checks("2 above five", withTable(1, 255, 1, 0, 5, 1, 1, 1, 1, 1), 301, 0, 2, 19);
+    }
+
+    static void fault3Before8() {
+        Due.checks("11 to no frame", withTable(1, 65, 1), 301, 0, 11, 9);
+    }
+
+    static void fault3Before9() {
+        Due.checks("11 to one that does not fit", withTable(2, 65, 1, 1), 301, 0, 11, 2, 19);
+    }
+
     static void fault3Before4() {
         Due.checks("of the frame", withTable(1, 65, 8, 9), 301, 0, 19);
         Due.checks("of x", withTable(1, 65, 1), 301, 0, 14, 8);
@@ -523,12 +555,27 @@ public final class Promise12Test {
         Due.checks("of x of a local", new FrameTyper(), 405, 2, 2, 2, 2, 2, 5, 4);
     }
 
+    static void fault4Before8() {
+        Due.checks("of the frame", withTable(1, 252, 1, 8, 9), 401, 19, 11, 9);
+    }
+
+    static void fault4Before9() {
+        int[] table = Due.join(Due.row(2), Due.frame(1, Due.row(64 + 9), Due.row(1)),
+                Due.frame(1, NOTHING, NOTHING));
+        Due.checks("of the frame", withTable(table), 401, 19, 11, 2, 19);
+    }
+
     static void fault5Before6() {
         Due.checks("the one that is there does not fit", new FrameTyper(), 501, 2, 7);
     }
 
     static void fault5Before8() {
         Due.checks("12", new FrameTyper(), 500, 12, 99);
+    }
+
+    static void fault5Before9() {
+        Due.checks("12", withTable(1, 66, 1), 500, 12, 2, 19);
+        Due.checks("13", withTable(1, 66, 1), 500, 13, 2, 19);
     }
 
     static void fault6Before7() {
@@ -540,6 +587,11 @@ public final class Promise12Test {
     static void fault6Before8() {
         Due.checks("12", new FrameTyper(), 601, 2, 12, 99);
         Due.checks("13", new FrameTyper(), 602, 1, 0, 13, 99);
+    }
+
+    static void fault6Before9() {
+        Due.checks("12", withTable(1, 67, 1), 601, 2, 12, 2, 19);
+        Due.checks("13", withTable(1, 68, 2), 602, 1, 0, 13, 2, 19);
     }
 
     static void thePlaceBeforeTheFault() {

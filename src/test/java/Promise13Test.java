@@ -1,4 +1,4 @@
-/** Promise 13, make: each boundary case of what comes where, and of its faults, has a test. */
+/** Promise 13, make: what comes where, and its faults, a test for each case. */
 public final class Promise13Test {
     private static final int NONE = FrameTyper.NONE;
     private static final int[] WITH_X = {1, 3, 4, 5, 6, 11, 12, 13, 14, 16, 17, 18, 20};
@@ -13,6 +13,67 @@ public final class Promise13Test {
 
     private static void makes(String what, int[] code, int... table) {
         Due.makes(what, new FrameTyper(), code, table);
+    }
+
+    // ---- "the first place has what the method takes"
+
+    static void theFirstPlaceHasWhatTheMethodTakes() {
+        Due.makes("four, and an empty stack", Due.typer(1, 17, 18, 23, 0), Due.row(11, 0), 1, 0);
+        Due.makes("each of them", Due.typer(1, 17, 18, 23, 0), Due.row(3, 0, 5, 1, 5, 2, 5, 3, 19), 0);
+        makes("none", Due.row(11, 0), 1, 0);
+        fails("no INT then", -600, 3, 0, 19);
+    }
+
+    // ---- "what an instruction leaves comes to those that follow it"
+
+    /** Makes one frame, which is right behind the code that is told and an 11. */
+    private static void leaves(String what, int[] code, int... form) {
+        FrameTyper t = Due.typer(1, 17, NONE, NONE, 0);
+        t.field(0, 1, 18);
+        t.routine(0, 17, 1, NONE, 19);
+        t.routine(1, 1, NONE, NONE, 0);
+        Due.makes(what, t, Due.join(code, Due.row(11, 2, 19)), Due.join(Due.row(1), form));
+    }
+
+    static void whatEachInstructionLeaves() {
+        leaves("0", Due.row(0), 3);
+        leaves("1", Due.row(1, 9), 64 + 4, 1);
+        leaves("2", Due.row(2), 64 + 3, 2);
+        leaves("3", Due.row(3, 0), 64 + 4, 1);
+        leaves("4", Due.row(1, 0, 4, 1), 255, 6, 2, 1, 1, 0);
+        leaves("5", Due.row(5, 1), 64 + 4, 7, 1);
+        leaves("6", Due.row(2, 6, 2), 252, 5, 2);
+        leaves("7", Due.row(1, 0, 1, 0, 7), 64 + 7, 1);
+        leaves("8", Due.row(2, 1, 0, 8), 64 + 6, 2);
+        leaves("9", Due.row(5, 1, 9), 255, 5, 2, 1, 7, 1, 2, 7, 1, 7, 1);
+        leaves("10", Due.row(2, 1, 0, 10), 255, 6, 2, 1, 7, 1, 2, 1, 2);
+        leaves("14", Due.row(14, 3), 64 + 4, 8, 0);
+        leaves("15", Due.row(14, 3, 9, 15), 64 + 6, 7, 3);
+        leaves("15, in a local", Due.row(14, 3, 9, 6, 2, 15), 252, 8, 7, 3);
+        leaves("16", Due.row(5, 1, 16, 0), 64 + 6, 7, 2);
+        leaves("17", Due.row(5, 1, 2, 17, 0), 7);
+        leaves("18", Due.row(5, 1, 1, 0, 18, 0), 64 + 8, 7, 3);
+        leaves("18 that gives nothing", Due.row(1, 0, 18, 1), 6);
+        leaves("20", Due.row(2, 20, 5), 64 + 5, 7, 5);
+    }
+
+    static void twelveAndThirteenLeaveWhatTheyHaveNotTaken() {
+        makes("12", Due.row(2, 1, 0, 12, 2, 19), 1, 64 + 5, 2);
+        makes("13", Due.row(1, 0, 2, 13, 2, 19), 1, 64 + 5, 1);
+    }
+
+    // "then what it leaves comes to the next place, if it goes on ..."
+    static void elevenAndNineteenAndTwentyOneDoNotGoOn() {
+        // Each stands before a place that is gone to with another height of the stack.
+        makes("11", Due.row(1, 0, 12, 5, 2, 11, 3, 2, 8, 19), 2, 7, 64, 2);
+        makes("19", Due.row(1, 0, 12, 4, 2, 19, 19), 1, 6);
+        makes("21", Due.row(1, 0, 12, 5, 2, 2, 21, 19), 1, 7);
+    }
+
+    static void zeroAndTwelveAndThirteenGoOn() {
+        fails("12", -305, 1, 0, 12, 3, 2, 19);
+        fails("13", -304, 2, 13, 3, 2, 19);
+        fails("0", -306, 1, 0, 12, 4, 2, 0, 19);
     }
 
     // ---- fault 1 "(also behind the last byte)"
