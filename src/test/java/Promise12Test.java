@@ -499,6 +499,10 @@ public final class Promise12Test {
         Due.checks("14 alone with a frame", withTable(1, 252, 1, 8, 9), 101, 19, 14);
     }
 
+    static void fault1Before7() {
+        Due.checks("1 alone above five", new FrameTyper(), 105, 2, 2, 2, 2, 2, 1);
+    }
+
     static void fault2Before4() {
         Due.checks("14 of class 8 behind 19", new FrameTyper(), 201, 19, 14, 8);
     }
@@ -511,8 +515,16 @@ public final class Promise12Test {
         Due.checks("3 of TOP behind 19", new FrameTyper(), 201, 19, 3, 0);
     }
 
+    static void fault2Before7() {
+        Due.checks("2 behind five and 19", new FrameTyper(), 206, 2, 2, 2, 2, 2, 19, 2);
+    }
+
     static void fault2Before8() {
         Due.checks("11 behind 19", new FrameTyper(), 201, 19, 11, 9);
+    }
+
+    static void fault2Before9() {
+        Due.checks("11 to one on the stack", withTable(1, 67, 1), 201, 19, 11, 2, 19);
     }
 
     static void fault3Before5() {
